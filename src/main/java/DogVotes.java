@@ -425,8 +425,7 @@ public final class DogVotes {
         if (!within(place, PLACES) || !within(other, PLACES) || place == other) {
             return BAD;
         }
-        duels.hold(now);
-        return duels.isWonBy(place, other) ? 1 : 0;
+        return now.leadOf(place, other) > 0 ? 1 : 0;
     }
 
     public int asked(int order) {
@@ -922,6 +921,20 @@ public final class DogVotes {
             return best;
         }
 
+        // By how much those for whom the one place is worth more outweigh those for whom the other is.
+        int leadOf(int place, int other) {
+            int lead = 0;
+            for (int one = 0; one < heads; one++) {
+                int better = worthTo(one, place) - worthTo(one, other);
+                if (better > 0) {
+                    lead += weightOf(one);
+                } else if (better < 0) {
+                    lead -= weightOf(one);
+                }
+            }
+            return lead;
+        }
+
         void passDay() {
             takeVotes();
             int aim = favouriteOfTally();
@@ -1094,22 +1107,9 @@ public final class DogVotes {
         void hold(Hill hill) {
             for (int place = 0; place < PLACES; place++) {
                 for (int other = 0; other < PLACES; other++) {
-                    won[place * PLACES + other] = leadOf(hill, place, other) > 0;
+                    won[place * PLACES + other] = hill.leadOf(place, other) > 0;
                 }
             }
-        }
-
-        int leadOf(Hill hill, int place, int other) {
-            int lead = 0;
-            for (int one = 0; one < hill.heads; one++) {
-                int better = hill.worthTo(one, place) - hill.worthTo(one, other);
-                if (better > 0) {
-                    lead += hill.weightOf(one);
-                } else if (better < 0) {
-                    lead -= hill.weightOf(one);
-                }
-            }
-            return lead;
         }
 
         boolean isWonBy(int place, int other) {
