@@ -161,6 +161,8 @@ public final class HillTests {
             due("kind of " + one, x.of(one, 0), kinds[one]);
         }
         due("ear without", x.of(0, 1), 0);
+        due("fear without", x.of(0, 2), 0);
+        due("look without", x.of(0, 3), 0);
         due("ear of 2", x.of(2, 1), 9);
         due("look of 3", x.of(3, 3), 5);
         due("fear of 4", x.of(4, 2), 9);

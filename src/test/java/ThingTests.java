@@ -209,6 +209,8 @@ public final class ThingTests {
         dueAct(x, WETHER, 1, 5, -3, 11, 30, 10);
         dueAct(x, WETHER, 2, 7, 2, 12);
         dueAct(x, WETHER, 3, 5, -5, 31, 13, 11, 30, 10, 12);
+        x.mind(2, WETHER, 3);
+        dueAct(x, WETHER, 3, 5, -1, 31, 13, 11, 30, 10, 12);
         dueAct(x, GIMMER, 0, 5, 8, 51, 10);
         dueAct(x, GIMMER, 1, 5, 13, 20, 11, 51, 10);
         dueAct(x, GIMMER, 2, 13, 10, 50, 12);

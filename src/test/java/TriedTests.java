@@ -6,6 +6,7 @@ public final class TriedTests {
     public static void main(String[] args) {
         promise23To24Where();
         promise25To26Calm();
+        promises24To26Limit();
         promise27CallFor();
         promise28KindFor();
         promise29EarFor();
@@ -91,6 +92,52 @@ public final class TriedTests {
         due("calm now", y.calm(), 0);
     }
 
+    /** Sheep by four numbers each, grass and risk by place, the call, three laws. */
+    private static DogVotes told(int... numbers) {
+        DogVotes x = new DogVotes();
+        int i = 0;
+        for (; i < numbers.length - 16; i += 4) {
+            x.sheep(numbers[i], numbers[i + 1], numbers[i + 2], numbers[i + 3]);
+        }
+        for (int place = 0; place < 6; place++, i += 2) {
+            x.grow(place, 0, numbers[i]);
+            x.grow(place, 1, numbers[i + 1]);
+        }
+        x.call(numbers[i++]);
+        for (int law = 0; law < 3; law++) {
+            x.set(law, numbers[i++]);
+        }
+        return x;
+    }
+
+    private static void promises24To26Limit() {
+        checks.about("promises 24 to 26, 60 days");
+        DogVotes x = told(3, 5, 9, 0, 5, 5, 6, 0, 7, 7, 2, 1, 0, 5, 1, 0, 0, 8, 7, 3);
+        due("comes at last", x.comes(5), 60);
+        due("where(59)", x.where(59), 4);
+        due("where(60)", x.where(60), 5);
+        x = told(3, 5, 9, 1, 5, 7, 0, 4, 0, 0, 9, 0, 3, 0, 7, 0, 9, 8, 9, 2, 0, 5, 1, 3);
+        due("comes too late", x.comes(5), -3);
+        x.days(1);
+        due("comes a day nearer", x.comes(5), 60);
+        x = told(1, 7, 9, 1, 0, 7, 6, 0, 2, 6, 1, 0, 1, 9, 8, 0, 0, 6, 4, 0, 3, 0, 1, 3);
+        due("calm at last", x.calm(), 60);
+        x.days(60);
+        due("no fear", x.state(3), 0);
+        x = told(1, 9, 1, 0, 0, 8, 9, 4, 2, 0, 9, 0, 6, 9, 9, 8, 0, 0, 9, 0, 1, 7, 1, 8);
+        due("calm too late", x.calm(), -3);
+        x.days(1);
+        due("calm a day nearer", x.calm(), 60);
+        x = told(5, 6, 1, 0, 6, 9, 7, 0, 7, 0, 6, 0, 4, 4, 7, 0, 1, 2, 0, 2);
+        due("scared at last", x.scared(0), 60);
+        x.days(60);
+        due("fear 9", x.of(0, 2), 9);
+        x = told(5, 4, 2, 5, 9, 9, 2, 0, 4, 0, 1, 0, 0, 0, 8, 0, 0, 7, 7, 7);
+        due("scared too late", x.scared(0), -3);
+        x.days(1);
+        due("scared a day nearer", x.scared(0), 60);
+    }
+
     private static void promise27CallFor() {
         checks.about("promise 27");
         DogVotes x = new DogVotes();
@@ -119,6 +166,7 @@ public final class TriedTests {
         due("kindFor(0, 0, 3)", x.kindFor(0, 0, 3), WETHER);
         due("kindFor(0, 2, 3)", x.kindFor(0, 2, 3), EWE);
         due("kindFor(0, 0, 1)", x.kindFor(0, 0, 1), EWE);
+        due("20 days: a wether stays", x.kindFor(0, 0, 20) <= WETHER ? 1 : 0, 1);
         due("nothing changed", x.of(0, 0), EWE);
         int[][] bad = {{1, 0, 1}, {-1, 0, 1}, {0, 6, 1}, {0, -1, 1}, {0, 0, 0}, {0, 0, 21}};
         for (int[] b : bad) {
@@ -134,6 +182,7 @@ public final class TriedTests {
         due("earFor(0, 0, 1)", x.earFor(0, 0, 1), 0);
         due("earFor(0, 1, 1)", x.earFor(0, 1, 1), 1);
         due("earFor(0, 5, 1)", x.earFor(0, 5, 1), -3);
+        due("20 days", x.earFor(0, 3, 20) >= 0 ? 1 : 0, 1);
         x.grow(3, 0, 1);
         // 2 and EAR against 10 where the flock is.
         due("a long ear", x.earFor(0, 1, 1), 9);
@@ -180,6 +229,8 @@ public final class TriedTests {
         due("one of two, the least", x.deafFor(3), 1);
         due("all", x.deafFor(0), 7);
         due("by no set", x.deafFor(1), -3);
+        x.looksFor(4);
+        due("looks asked for before count nothing here", x.deafFor(0), 7);
         x.call(2);
         due("2 votes each: the nearest", x.deafFor(1), 0);
         due("the whistle is heard all the same", x.deafFor(5), -3);
@@ -271,6 +322,13 @@ public final class TriedTests {
         due("the third has what it likes", x.sham(2), -3);
         x.mind(0, WETHER, 9);
         due("a wether moves nothing", x.sham(0), -3);
+        x.mind(0, HOGG, 9);
+        x.mind(1, HOGG, 9);
+        x.look(1, 0);
+        x.look(2, 3);
+        x.flock(2);
+        x.grow(0, 0, 7);
+        due("for place 0", x.sham(0), 0);
         due("no such one", x.sham(3), -1);
         due("no such one", x.sham(-1), -1);
     }
