@@ -181,6 +181,13 @@ public final class HillTests {
         dueHill("sheep;", -100);
         dueHill("ewes;", -100);
         dueHill("Ewe;", -100);
+        dueHill("ewez;", -100);
+        dueHill("ewea;", -100);
+        dueHill("ewe{", -103);
+        dueHill("ewe`", -103);
+        dueHill("ewe ear 3:", -109);
+        dueHill("ewe ear 3/", -109);
+        dueHill("ewe ear 3ear", -109);
         dueHill(";", -100);
         dueHill("7;", -100);
         dueHill("ear 7;", -100);
