@@ -61,13 +61,6 @@ public final class EdgeHillTests {
         return Twins.range(least, most);
     }
 
-    /** An object with one of the sheep. */
-    private static DogVotes one(int kind, int ear, int fear, int look) {
-        DogVotes x = new DogVotes();
-        x.sheep(kind, ear, fear, look);
-        return x;
-    }
-
     private static void promise01NothingThere() {
         checks.about("promise 1: no SHEEP; nothing is kept");
         Twins.Making fresh = DogVotes::new;
@@ -176,8 +169,8 @@ public final class EdgeHillTests {
     private static void dueFault(String text, int fault) {
         DogVotes x = Twins.untaped();
         HillTests.feed(x, text);
-        due("hill of «" + text + "»", x.hill(), -100 - fault);
-        Twins.alike(checks, "hill of «" + text + "»", x, Twins.untaped());
+        due("hill of <" + text + ">", x.hill(), -100 - fault);
+        Twins.alike(checks, "hill of <" + text + ">", x, Twins.untaped());
     }
 
     private static void promise03EmptyTape() {
@@ -470,7 +463,7 @@ public final class EdgeHillTests {
         int[] answers = {-108, -109, -104, -107, -110, 1};
         for (int i = 0; i < texts.length; i++) {
             HillTests.feed(x, texts[i]);
-            due("nothing of the former text: «" + texts[i] + "»", x.hill(), answers[i]);
+            due("nothing of the former text: <" + texts[i] + ">", x.hill(), answers[i]);
         }
     }
 
@@ -528,7 +521,7 @@ public final class EdgeHillTests {
     }
 
     private static void dueCounts(int kind, int look, int at, int grassThere, int want) {
-        DogVotes x = one(kind, 9, 9, look);
+        DogVotes x = Twins.one(kind, 9, 9, look);
         x.flock(at);
         x.grow(at, 0, grassThere);
         due("kind " + kind + " counts at " + at + " with look " + look + ", grass " + grassThere, x.of(0, 4), want);
@@ -550,14 +543,14 @@ public final class EdgeHillTests {
                 dueCounts(TUP, 0, at, grass, grass < 3 ? 3 : 1);
             }
         }
-        DogVotes x = one(TUP, 0, 0, 0);
+        DogVotes x = Twins.one(TUP, 0, 0, 0);
         x.grow(1, 0, 0);
         due("only the grass where the flock is", x.of(0, 4), 1);
     }
 
     private static void promise07Vote() {
         checks.about("terms: VOTE, of several the least");
-        DogVotes x = one(EWE, 0, 0, 0);
+        DogVotes x = Twins.one(EWE, 0, 0, 0);
         due("all alike", x.of(0, 5), 0);
         x.grow(5, 0, 6);
         due("the last place", x.of(0, 5), 5);
@@ -581,7 +574,7 @@ public final class EdgeHillTests {
 
     private static void promise08Worth() {
         checks.about("terms: WORTH, the least and the greatest");
-        DogVotes x = one(EWE, 9, 9, 4);
+        DogVotes x = Twins.one(EWE, 9, 9, 4);
         x.grow(5, 0, 0);
         x.grow(5, 1, 9);
         int[] least = {-24, -24, -12, -24 - 9, -12, -15};
@@ -630,7 +623,7 @@ public final class EdgeHillTests {
 
     private static void promise08HalfAndThird() {
         checks.about("terms: half, cut towards 0");
-        DogVotes x = one(WETHER, 0, 0, 0);
+        DogVotes x = Twins.one(WETHER, 0, 0, 0);
         x.grow(2, 1, 9);
         int[] halves = {-4, -3, -2, -1, 0, 0, 1, 2, 3, 4};
         for (int grass = 0; grass < 10; grass++) {
@@ -642,7 +635,7 @@ public final class EdgeHillTests {
         x.grow(2, 0, 3);
         dueWorth(x, BELLWETHER, 2, 8);
         checks.about("terms: a third of FEAR (cut) for each PLACE that it is off");
-        x = one(EWE, 0, 0, 0);
+        x = Twins.one(EWE, 0, 0, 0);
         int[] thirds = {0, 0, 0, 1, 1, 1, 2, 2, 2, 3};
         for (int at = 0; at < 6; at++) {
             x.flock(at);
@@ -661,7 +654,7 @@ public final class EdgeHillTests {
         int[] want = {1, 2, 3, -1, 3, 0};
         for (int kind = 0; kind < 6; kind++) {
             for (int v : new int[] {0, 9}) {
-                due("tames of kind " + kind, one(kind, v, v, v % 6).tames(0), 1000 + want[kind]);
+                due("tames of kind " + kind, Twins.one(kind, v, v, v % 6).tames(0), 1000 + want[kind]);
             }
         }
     }
@@ -811,7 +804,7 @@ public final class EdgeHillTests {
         for (int kind = 0; kind < 6; kind++) {
             for (int fear = 0; fear < 10; fear++) {
                 for (int risk = 0; risk < 10; risk++) {
-                    DogVotes x = one(kind, 0, fear, 5);
+                    DogVotes x = Twins.one(kind, 0, fear, 5);
                     x.call(1);
                     x.set(1, 9);
                     x.grow(0, 1, risk);
@@ -822,13 +815,13 @@ public final class EdgeHillTests {
             }
         }
         checks.about("terms: RISK where THE FLOCK is then");
-        DogVotes x = one(TUP, 0, 3, 0);
+        DogVotes x = Twins.one(TUP, 0, 3, 0);
         x.call(2);
         x.set(1, 9);
         x.grow(1, 1, 4);
         x.days(1);
         due("of where it came to", x.of(0, 2), 4);
-        x = one(TUP, 0, 3, 0);
+        x = Twins.one(TUP, 0, 3, 0);
         x.call(2);
         x.set(1, 9);
         x.grow(0, 1, 4);
@@ -916,7 +909,7 @@ public final class EdgeHillTests {
         checks.about("promise 21: STRAYS (n 1 to 30)");
         ranges("strays", (x, a) -> x.strays(a[0]), range(1, 30));
         Twins.Making hogg = () -> {
-            DogVotes x = one(HOGG, 9, 0, 0);
+            DogVotes x = Twins.one(HOGG, 9, 0, 0);
             x.set(3, 99);
             return x;
         };
@@ -929,7 +922,7 @@ public final class EdgeHillTests {
         checks.about("terms: STRAYS, not where a DAY takes it, each tried from how all is now");
         for (int look = 0; look < 6; look++) {
             for (int at = 0; at < 6; at++) {
-                DogVotes x = one(HOGG, 9, 0, look);
+                DogVotes x = Twins.one(HOGG, 9, 0, look);
                 x.set(3, 60);
                 x.flock(at);
                 int usual = Integer.signum(look - at), stray = 0;
@@ -939,7 +932,7 @@ public final class EdgeHillTests {
                 due("strays at " + at + " with look " + look, x.strays(30), looksAt(30, 60, stray));
             }
         }
-        DogVotes x = one(HOGG, 9, 0, 0);
+        DogVotes x = Twins.one(HOGG, 9, 0, 0);
         x.set(3, 0);
         due("none looks wrongly", x.strays(30), 0);
         due("no sheep", new DogVotes().strays(30), 0);

@@ -45,12 +45,6 @@ public final class EdgeThingTests {
         return Twins.range(least, most);
     }
 
-    private static DogVotes one(int kind, int ear, int fear, int look) {
-        DogVotes x = new DogVotes();
-        x.sheep(kind, ear, fear, look);
-        return x;
-    }
-
     private static void promise45Bad() {
         checks.about("promise 45: BAD: no such SHEET, one, n, or n goes beyond the last one");
         Twins.ranges(checks, "minds", Twins::rich, (x, a) -> x.minds(a[0], 0, a[1], 0), -1, range(0, 3), range(0, 6));
@@ -492,7 +486,7 @@ public final class EdgeThingTests {
 
     private static void promise51Wraps() {
         checks.about("promise 51: ints that wrap");
-        DogVotes x = one(EWE, 0, 0, 0);
+        DogVotes x = Twins.one(EWE, 0, 0, 0);
         dueAct(x, 0, 0, MAX, -2, 10);
         dueAct(x, 0, 0, MIN, 0, 10);
         dueAct(x, 0, 0, 0x40000000, MIN, 10);
@@ -671,7 +665,7 @@ public final class EdgeThingTests {
     private static void promise54To55Nothing() {
         checks.about("promise 55: NONE: nothing is kept");
         Twins.Making unkept = () -> {
-            DogVotes x = one(HOGG, 3, 4, 5);
+            DogVotes x = Twins.one(HOGG, 3, 4, 5);
             x.days(7);
             x.prove(0, 3);
             x.feed(32, 1);
@@ -706,7 +700,7 @@ public final class EdgeThingTests {
             x.sheet(i % 4, 3, 40);
         }
         due("the 512th", x.item(3, 3, 39), 0);
-        x = one(GIMMER, 0, 0, 0);
+        x = Twins.one(GIMMER, 0, 0, 0);
         for (int i = 0; i < 510; i++) {
             x.days(60);
         }

@@ -49,12 +49,6 @@ public final class EdgeTriedTests {
         return Twins.range(least, most);
     }
 
-    private static DogVotes one(int kind, int ear, int fear, int look) {
-        DogVotes x = new DogVotes();
-        x.sheep(kind, ear, fear, look);
-        return x;
-    }
-
     private static void promise23Where() {
         checks.about("promise 23: WHERE by n (0 to 60)");
         ranges("where", (x, a) -> x.where(a[0]), range(0, 60));
@@ -89,14 +83,14 @@ public final class EdgeTriedTests {
         checks.about("promise 25: CALM (0, if there are no SHEEP); NONE: not by then");
         due("no sheep", new DogVotes().calm(), 0);
         for (int fear = 0; fear < 10; fear++) {
-            due("ewe of fear " + fear, one(EWE, 0, fear, 0).calm(), fear);
-            due("hogg of fear " + fear, one(HOGG, 0, fear, 0).calm(), (fear + 1) / 2);
-            due("wether of fear " + fear, one(WETHER, 0, fear, 0).calm(), (fear + 2) / 3);
-            due("tup of fear " + fear, one(TUP, 0, fear, 0).calm(), fear == 0 ? 0 : -3);
-            due("gimmer of fear " + fear, one(GIMMER, 0, fear, 0).calm(), fear == 0 ? 0 : -3);
+            due("ewe of fear " + fear, Twins.one(EWE, 0, fear, 0).calm(), fear);
+            due("hogg of fear " + fear, Twins.one(HOGG, 0, fear, 0).calm(), (fear + 1) / 2);
+            due("wether of fear " + fear, Twins.one(WETHER, 0, fear, 0).calm(), (fear + 2) / 3);
+            due("tup of fear " + fear, Twins.one(TUP, 0, fear, 0).calm(), fear == 0 ? 0 : -3);
+            due("gimmer of fear " + fear, Twins.one(GIMMER, 0, fear, 0).calm(), fear == 0 ? 0 : -3);
         }
-        refused("calm", () -> one(TUP, 0, 1, 0), DogVotes::calm, -3);
-        DogVotes x = one(TUP, 0, 0, 0);
+        refused("calm", () -> Twins.one(TUP, 0, 1, 0), DogVotes::calm, -3);
+        DogVotes x = Twins.one(TUP, 0, 0, 0);
         x.sheep(EWE, 0, 1, 0);
         due("nobody: all of them", x.calm(), 1);
     }
@@ -106,14 +100,14 @@ public final class EdgeTriedTests {
         ranges("scared", (x, a) -> x.scared(a[0]), range(0, 6));
         for (int fear = 0; fear < 10; fear++) {
             int f = fear;
-            due("gimmer of fear " + fear, one(GIMMER, 0, fear, 0).scared(0), 9 - fear);
+            due("gimmer of fear " + fear, Twins.one(GIMMER, 0, fear, 0).scared(0), 9 - fear);
             if (fear < 9) {
-                refused("a tup of fear " + fear, () -> one(TUP, 0, f, 0), x -> x.scared(0), -3);
+                refused("a tup of fear " + fear, () -> Twins.one(TUP, 0, f, 0), x -> x.scared(0), -3);
             } else {
-                due("a tup of fear 9", one(TUP, 0, fear, 0).scared(0), 0);
+                due("a tup of fear 9", Twins.one(TUP, 0, fear, 0).scared(0), 0);
             }
         }
-        DogVotes x = one(TUP, 0, 0, 0);
+        DogVotes x = Twins.one(TUP, 0, 0, 0);
         x.sheep(GIMMER, 0, 8, 0);
         due("another one's fear counts nothing", x.scared(0), -3);
         due("its own", x.scared(1), 1);
@@ -171,7 +165,7 @@ public final class EdgeTriedTests {
             }
         }
         checks.about("promise 28: each KIND can be the one");
-        DogVotes x = one(EWE, 9, 0, 3);
+        DogVotes x = Twins.one(EWE, 9, 0, 3);
         due("all go nowhere", x.kindFor(0, 0, 1), EWE);
         due("after its look", x.kindFor(0, 3, 3), HOGG);
         due("counting nothing", x.kindFor(0, 0, 3), WETHER);
@@ -182,11 +176,11 @@ public final class EdgeTriedTests {
         x.set(1, 0);
         x.mind(0, EWE, 8);
         due("after the call", x.kindFor(0, 2, 2), BELLWETHER);
-        x = one(EWE, 0, 0, 0);
+        x = Twins.one(EWE, 0, 0, 0);
         x.grow(4, 1, 9);
         x.grow(4, 0, 6);
         due("after grass and risk", x.kindFor(0, 4, 4), TUP);
-        x = one(EWE, 1, 0, 5);
+        x = Twins.one(EWE, 1, 0, 5);
         x.grow(0, 0, 9);
         x.grow(1, 1, 9);
         x.grow(2, 1, 9);
@@ -218,7 +212,7 @@ public final class EdgeTriedTests {
         for (int grass = 0; grass < 10; grass++) {
             int g = grass, least = grass > 5 ? 0 : 11 - 2 * grass;
             Twins.Making hogg = () -> {
-                DogVotes x = one(HOGG, 9, 0, 3);
+                DogVotes x = Twins.one(HOGG, 9, 0, 3);
                 x.grow(3, 0, g);
                 return x;
             };
@@ -229,7 +223,7 @@ public final class EdgeTriedTests {
             }
         }
         refused("an EAR of 10 would do", () -> {
-            DogVotes x = one(HOGG, 9, 0, 3);
+            DogVotes x = Twins.one(HOGG, 9, 0, 3);
             x.grow(3, 0, 1);
             x.grow(3, 1, 1);
             return x;
@@ -410,7 +404,7 @@ public final class EdgeTriedTests {
         for (int place = 0; place < 6; place++) {
             int p = place;
             Twins.Making forOne = () -> {
-                DogVotes x = one(EWE, 0, 0, 0);
+                DogVotes x = Twins.one(EWE, 0, 0, 0);
                 x.grow(p, 0, 9);
                 return x;
             };
@@ -424,7 +418,7 @@ public final class EdgeTriedTests {
                 }
             }
         }
-        DogVotes x = one(EWE, 0, 0, 0);
+        DogVotes x = Twins.one(EWE, 0, 0, 0);
         x.grow(4, 0, 9);
         x.grow(5, 0, 9);
         due("two as good: half of all each", x.agenda(4, 0), 360);
@@ -485,12 +479,12 @@ public final class EdgeTriedTests {
     private static void promise36Sham() {
         checks.about("promise 36: SHAM, greater than as it is; NONE");
         ranges("sham", (x, a) -> x.sham(a[0]), range(0, 6));
-        refused("alone, it has what it likes", () -> one(EWE, 0, 0, 0), x -> x.sham(0), -3);
+        refused("alone, it has what it likes", () -> Twins.one(EWE, 0, 0, 0), x -> x.sham(0), -3);
         // 5 for the first, 4 for the second, 1 for the third, all as near or far as 1: 1 wins.
         for (int grass = 4; grass < 7; grass++) {
             int g = grass;
             Twins.Making three = () -> {
-                DogVotes x = one(HOGG, 9, 0, 5);
+                DogVotes x = Twins.one(HOGG, 9, 0, 5);
                 x.sheep(HOGG, 9, 0, 4);
                 x.sheep(HOGG, 9, 0, 1);
                 x.grow(4, 0, g);
@@ -503,7 +497,7 @@ public final class EdgeTriedTests {
             }
         }
         checks.about("promise 36: of several the least");
-        DogVotes x = one(HOGG, 9, 0, 5);
+        DogVotes x = Twins.one(HOGG, 9, 0, 5);
         for (int look : new int[] {3, 4, 1}) {
             x.sheep(HOGG, 9, 0, look);
         }
@@ -555,7 +549,7 @@ public final class EdgeTriedTests {
         // Of 8: with none ahead 4 are just half; with all ahead 4 are no more than half.
         duePower(x, 4, 4, 5);
         duePower(x, 0, 1, 20);
-        DogVotes first = one(GIMMER, 0, 0, 0);
+        DogVotes first = Twins.one(GIMMER, 0, 0, 0);
         first.sheep(EWE, 0, 0, 0);
         first.sheep(EWE, 0, 0, 0);
         duePower(first, 0, 1, 1);
@@ -564,7 +558,7 @@ public final class EdgeTriedTests {
         x.sheep(WETHER, 0, 0, 0);
         duePower(x, 5, 0, 1);
         duePower(x, 4, 4, 5);
-        duePower(one(WETHER, 0, 0, 0), 0, 0, 1);
+        duePower(Twins.one(WETHER, 0, 0, 0), 0, 0, 1);
         x = ewes(1);
         x.sheep(GIMMER, 0, 0, 0);
         duePower(x, 0, 0, 1);
@@ -573,7 +567,7 @@ public final class EdgeTriedTests {
 
     /** One ewe at place 0; place 3 is worth 14 less three thirds of FEAR, place 0 as told, the others nothing. */
     private static DogVotes fearful(int grassHere) {
-        DogVotes x = one(EWE, 0, 4, 0);
+        DogVotes x = Twins.one(EWE, 0, 4, 0);
         for (int place = 0; place < 6; place++) {
             x.grow(place, 0, place == 3 ? 7 : place == 0 ? grassHere : 0);
         }
@@ -765,9 +759,9 @@ public final class EdgeTriedTests {
     private static void promise44Judge() {
         checks.about("promise 44: 0 all is right; else the first ROW that isn't, and 1 more");
         ranges("judge", (x, a) -> x.judge(a[0]), range(0, 6));
-        DogVotes none = one(EWE, 0, 0, 0);
+        DogVotes none = Twins.one(EWE, 0, 0, 0);
         due("no rows", none.judge(0), 0);
-        refused("no rows, no such one", () -> one(EWE, 0, 0, 0), x -> x.judge(1), -1);
+        refused("no rows, no such one", () -> Twins.one(EWE, 0, 0, 0), x -> x.judge(1), -1);
         for (int i = 0; i < 10; i++) {
             for (int what = 0; what < 3; what++) {
                 DogVotes x = Twins.rich();

@@ -48,7 +48,7 @@ public final class HillTests {
     }
 
     private static void dueHill(String text, int want) {
-        due("hill of «" + text + "»", hill(text), want);
+        due("hill of <" + text + ">", hill(text), want);
     }
 
     private static void dueState(DogVotes x, int... want) {

@@ -152,7 +152,7 @@ public final class ModelTests {
             int n = upTo(9);
             due("feed " + n, x.feed(-1L, n), m.feed(-1L, n));
         }
-        due("hill «" + s + "»", x.hill(), m.hill());
+        due("hill <" + s + ">", x.hill(), m.hill());
     }
 
     private void look() {

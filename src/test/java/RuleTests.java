@@ -2,6 +2,7 @@ import java.lang.management.ManagementFactory;
 import java.lang.reflect.Field;
 import java.lang.reflect.Method;
 import java.lang.reflect.Modifier;
+import java.nio.file.DirectoryStream;
 import java.nio.file.Files;
 import java.nio.file.Path;
 import java.util.Arrays;
@@ -29,7 +30,9 @@ public final class RuleTests {
         face();
         nestedClasses();
         source();
+        plainSigns();
         room();
+        roomOfMakers();
         checks.close();
     }
 
@@ -118,17 +121,53 @@ public final class RuleTests {
         }
     }
 
+    /** So that javac reads them alike whatever the machine's locale is. */
+    private static void plainSigns() throws Exception {
+        checks.about("every source is ASCII");
+        try (DirectoryStream<Path> files = Files.newDirectoryStream(Path.of("src/test/java"), "*.java")) {
+            for (Path file : files) {
+                boolean isPlain = true;
+                for (byte b : Files.readAllBytes(file)) {
+                    isPlain &= b >= 0;
+                }
+                checks.holds(file + " has ASCII alone", isPlain);
+            }
+        }
+    }
+
+    private static long bytesMade() {
+        com.sun.management.ThreadMXBean threads = (com.sun.management.ThreadMXBean) ManagementFactory.getThreadMXBean();
+        return threads.getThreadAllocatedBytes(Thread.currentThread().getId());
+    }
+
     /** No call but sheet() makes anything: 500 of the dearest make less than a hundred bytes each. */
     private static void room() {
         checks.about("room");
-        com.sun.management.ThreadMXBean threads = (com.sun.management.ThreadMXBean) ManagementFactory.getThreadMXBean();
-        long id = Thread.currentThread().getId();
         dear(new DogVotes(), 1);
         DogVotes x = new DogVotes();
-        long before = threads.getThreadAllocatedBytes(id);
+        long before = bytesMade();
         dear(x, 12);
-        long made = threads.getThreadAllocatedBytes(id) - before;
+        long made = bytesMade() - before;
         checks.holds("dear calls make nothing, made " + made, made < 500 * 100);
+    }
+
+    /** A new object makes 44 objects and arrays, a sheet two: its row and the row's items. */
+    private static void roomOfMakers() {
+        checks.about("room");
+        DogVotes x = new DogVotes();
+        x.sheet(0, 3, 40);
+        long before = bytesMade();
+        for (int i = 0; i < 100; i++) {
+            x = new DogVotes();
+        }
+        long made = bytesMade() - before;
+        checks.holds("a new object is small, made " + made / 100, made < 100 * 4000);
+        before = bytesMade();
+        for (int i = 0; i < 512; i++) {
+            x.sheet(i % 4, 3, 40);
+        }
+        made = bytesMade() - before;
+        checks.holds("a sheet is small, made " + made / 512, made < 512 * 300);
     }
 
     private static void dear(DogVotes x, int times) {

@@ -74,6 +74,13 @@ final class Twins {
         return x;
     }
 
+    /** An object with one of the sheep. */
+    static DogVotes one(int kind, int ear, int fear, int look) {
+        DogVotes x = new DogVotes();
+        x.sheep(kind, ear, fear, look);
+        return x;
+    }
+
     /** What can be asked of an object, the texts of the calls with their answers; it is used up by this. */
     static List<String> everything(DogVotes x) {
         List<String> all = new ArrayList<>();
